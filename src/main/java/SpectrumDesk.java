@@ -12,7 +12,7 @@ public final class SpectrumDesk {
     private static final int FINEST_GRID = 30;
 
     private final int[][] matrix;
-    private final int[] row;
+    private final int[] given;
     private final Sums sums;
     private final Spectrum spectrum;
     private final Printer printer;
@@ -21,7 +21,7 @@ public final class SpectrumDesk {
 
     public SpectrumDesk() {
         matrix = new int[MOST_ROWS][MOST_ROWS];
-        row = new int[MOST_ROWS];
+        given = new int[MOST_ROWS];
         sums = new Sums();
         spectrum = new Spectrum();
         printer = new Printer();
@@ -71,18 +71,18 @@ public final class SpectrumDesk {
         if (sums.rows >= MOST_DATA_ROWS) {
             return NONE;
         }
-        row[0] = a;
-        row[1] = b;
-        row[2] = c;
-        row[3] = d;
-        row[4] = e;
-        row[5] = f;
+        given[0] = a;
+        given[1] = b;
+        given[2] = c;
+        given[3] = d;
+        given[4] = e;
+        given[5] = f;
         for (int i = 0; i < n; i++) {
-            if (isTooLarge(row[i], MOST_DATA_VALUE)) {
+            if (isTooLarge(given[i], MOST_DATA_VALUE)) {
                 return NONE;
             }
         }
-        sums.take(row, n);
+        sums.take(given, n);
         return sums.rows;
     }
 
@@ -297,11 +297,11 @@ public final class SpectrumDesk {
         static final int HALF = 1 << (BITS - 1);
         static final long BASE = 1L << BITS;
 
-        /** A characteristic number is below 2^132 in size. */
+        /** A characteristic number of six rows: below 2^(6 * 23 + 5). */
         static final int FOR_COEFFICIENT = 6;
         /** A cell's edge in the finest grid taken from six eigenvalues: below 2^(6 * 55 + 5). */
         static final int FOR_EDGE = 12;
-        /** Any fraction taken from six eigenvalues, and a cell split 42 times: below 2^(6 * 96 + 5). */
+        /** Any fraction taken from six eigenvalues, or a cell's edge after 42 splits: below 2^(6 * 96 + 5). */
         static final int FOR_FRACTION = 20;
         /** The last step of Euclid's algorithm before it is divided: below 2^(54 * 24 + 23). */
         static final int FOR_EUCLID = 45;
@@ -470,13 +470,9 @@ public final class SpectrumDesk {
             }
         }
 
-        int signOf(int k) {
-            return Limbs.sign(c[k], limbs);
-        }
-
         int rootsAtZero() {
             for (int k = 0; k < degree; k++) {
-                if (signOf(k) != 0) {
+                if (Limbs.sign(c[k], limbs) != 0) {
                     return k;
                 }
             }
@@ -488,7 +484,7 @@ public final class SpectrumDesk {
             int changes = 0;
             int last = 1;
             for (int k = degree; k >= 0; k--) {
-                int sign = signOf(k);
+                int sign = Limbs.sign(c[k], limbs);
                 if (sign == -last) {
                     changes++;
                     last = sign;
@@ -568,7 +564,7 @@ public final class SpectrumDesk {
             divisor = new int[Limbs.FOR_EUCLID];
         }
 
-        /** Puts into common what p shares with its derivative, and its first number is 1. */
+        /** Puts into common what p shares with its derivative, made to start with 1. */
         void findCommon(Polynomial p, Polynomial common, int bound) {
             int limbs = limbsNeeded(p.degree, bound);
             Polynomial upper = first;
@@ -578,7 +574,7 @@ public final class SpectrumDesk {
             for (int j = p.degree - 1; j >= 1; j--) {
                 reduce(upper, lower);
                 // All zeros are real: degrees fall by one, so a first number 0 means that all are 0.
-                if (upper.signOf(upper.degree) == 0) {
+                if (Limbs.sign(upper.c[upper.degree], limbs) == 0) {
                     break;
                 }
                 Polynomial swapped = upper;
@@ -591,8 +587,9 @@ public final class SpectrumDesk {
         }
 
         /**
-         * Zeros differ by at most 2 * bound = r. The last subresultant is their n (n - 1) differences
-         * multiplied; before it is divided, it stands there times the square of that for n - 2.
+         * Subresultant k has for its first number the sum, over all k of the zeros, of their k (k - 1)
+         * differences multiplied, each at most 2 * bound. The widest number is the last one before it is
+         * divided: then it stands there times the square of the one two steps before.
          */
         private static int limbsNeeded(int n, int bound) {
             int powers = n * (n - 1) + 2 * (n - 2) * (n - 3);
@@ -650,7 +647,11 @@ public final class SpectrumDesk {
     /** The eigenvalues of one matrix; what has been found out about them is kept. */
     private static final class Spectrum {
         private static final long STEPS = 1L << FINEST_GRID;
-        /** Eigenvalues of which one is repeated differ by 12000000^-3, more than 2^-72, if at all. */
+        /**
+         * A repeated eigenvalue is a zero of degree at most 3, and any other one that goes with it in six
+         * rows is so far from it that at most 4 differences, multiplied, are a whole number other than 0.
+         * The other 3 are at most 12000000 each: the least is above 2^-72, so a grid of 72 parts the two.
+         */
         private static final int MOST_SPLITS = 72 - FINEST_GRID;
 
         final Polynomial[] blocks;
@@ -728,14 +729,11 @@ public final class SpectrumDesk {
             return probe.rootsBelow();
         }
 
+        /** Looks for the greatest edge that at most i eigenvalues lie below, bit by bit. */
         long finestCell(int i) {
-            if (!cellKnown[i]) {
-                findCell(i);
+            if (cellKnown[i]) {
+                return cells[i];
             }
-            return cells[i];
-        }
-
-        private void findCell(int i) {
             long last = bound * STEPS;
             long edge = -last;
             for (int bit = bitsOf(2 * last); bit >= 0; bit--) {
@@ -749,6 +747,7 @@ public final class SpectrumDesk {
                 cells[j] = edge;
                 cellKnown[j] = true;
             }
+            return edge;
         }
 
         int cellsTaken(int w) {
