@@ -91,8 +91,10 @@ final class Due {
     /** What was printed latest, read character by character up to the first NONE. */
     static String printed(SpectrumDesk desk) {
         StringBuilder text = new StringBuilder();
-        for (int i = 0; desk.character(i) != SpectrumDesk.NONE; i++) {
-            text.append((char) desk.character(i));
+        int next = desk.character(0);
+        while (next != SpectrumDesk.NONE) {
+            text.append((char) next);
+            next = desk.character(text.length());
         }
         return text.toString();
     }

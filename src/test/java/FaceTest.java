@@ -162,9 +162,9 @@ public final class FaceTest {
         dearest(desk, 1);
         long id = Thread.currentThread().getId();
         long before = threads.getThreadAllocatedBytes(id);
-        dearest(desk, 20);
+        dearest(desk, 5);
         long bytes = threads.getThreadAllocatedBytes(id) - before;
-        System.out.println("20 rounds of all calls: " + bytes + " bytes");
+        System.out.println("5 rounds of all calls: " + bytes + " bytes");
         due.yes("calls make no objects", bytes < 2000);
     }
 

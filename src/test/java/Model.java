@@ -4,11 +4,8 @@ import java.util.List;
 
 /** The document once more, in its plainest form, on top of the oracle: slow, and nothing kept but the state. */
 final class Model {
-    static final String INDEX = "throws.IndexOutOfBoundsException";
-    static final String ILLEGAL = "throws.IllegalArgumentException";
-
     private int[][] matrix = new int[1][1];
-    private final List<int[]> rows = new ArrayList<>();
+    private final List<int[]> given = new ArrayList<>();
     private String printed = "";
     private Oracle oracle;
 
@@ -20,21 +17,25 @@ final class Model {
         switch (op) {
             case 0: return make(i);
             case 1: return put(i, j, (int) a[2]);
-            case 2: return isIndex(i) && isIndex(j) ? "" + matrix[i][j] : INDEX;
-            case 3: return "" + (i == 0 ? n : i == 1 ? rows.size() : -1);
+            case 2: return isIndex(i) && isIndex(j) ? "" + matrix[i][j] : Calls.INDEX;
+            case 3: return "" + (i == 0 ? n : i == 1 ? given.size() : -1);
             case 4: return data(a);
             case 5: return spread();
             case 6: return shift(i);
             case 7: return characteristic(i);
             case 8: return "" + (i >= 0 && i < printed.length() ? (int) printed.charAt(i) : -1);
             case 9: return count(i, a[1], a[2], (int) a[3]);
-            case 10: return !isIndex(i) ? INDEX : j < 0 || j > 30 ? ILLEGAL : "" + oracle().cell(i, j);
-            case 11: return isIndex(i) ? "" + oracle().multiplicity(i) : INDEX;
+            case 10: return !isIndex(i) ? Calls.INDEX : j < 0 || j > 30 ? Calls.ILLEGAL : "" + oracle().cell(i, j);
+            case 11: return isIndex(i) ? "" + oracle().multiplicity(i) : Calls.INDEX;
             case 12: return "" + oracle().different();
-            case 13: return isIndex(i) ? "" + oracle().whole(i) : INDEX;
+            case 13: return isIndex(i) ? "" + oracle().whole(i) : Calls.INDEX;
             case 14: return "" + oracle().apart();
             default: return "1";
         }
+    }
+
+    int rows() {
+        return matrix.length;
     }
 
     private boolean isIndex(int i) {
@@ -54,25 +55,25 @@ final class Model {
 
     private String make(int n) {
         if (n < 1 || n > 6) {
-            return ILLEGAL;
+            return Calls.ILLEGAL;
         }
         matrix = new int[n][n];
-        rows.clear();
+        given.clear();
         oracle = null;
-        return "";
+        return Calls.DONE;
     }
 
     private String put(int i, int j, int v) {
         if (!isIndex(i) || !isIndex(j)) {
-            return INDEX;
+            return Calls.INDEX;
         }
         if (isTooLarge(v, 1000000)) {
-            return ILLEGAL;
+            return Calls.ILLEGAL;
         }
         matrix[i][j] = v;
         matrix[j][i] = v;
         oracle = null;
-        return "";
+        return Calls.DONE;
     }
 
     private String data(long[] a) {
@@ -83,11 +84,11 @@ final class Model {
                 return "-1";
             }
         }
-        if (rows.size() == 100) {
+        if (given.size() == 100) {
             return "-1";
         }
-        rows.add(row);
-        return "" + rows.size();
+        given.add(row);
+        return "" + given.size();
     }
 
     private String spread() {
@@ -98,12 +99,12 @@ final class Model {
                 long products = 0;
                 long left = 0;
                 long right = 0;
-                for (int[] row : rows) {
+                for (int[] row : given) {
                     products += row[i] * row[j];
                     left += row[i];
                     right += row[j];
                 }
-                long v = rows.size() * products - left * right;
+                long v = given.size() * products - left * right;
                 if (isTooLarge(v, 1000000)) {
                     return "-2";
                 }
@@ -138,7 +139,7 @@ final class Model {
 
     private String count(int k, long top, long bottom, int way) {
         if (k < 1 || k > matrix.length || way < 0 || way > 2 || bottom <= 0) {
-            return ILLEGAL;
+            return Calls.ILLEGAL;
         }
         Oracle first = new Oracle(matrix, k);
         int less = first.below(BigInteger.valueOf(top), BigInteger.valueOf(bottom), false);

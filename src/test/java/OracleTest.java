@@ -10,20 +10,27 @@ public final class OracleTest {
         int many = args.length > 1 ? Integer.parseInt(args[1]) : 25;
         Matrices matrices = new Matrices(seed);
         compareNearPairs(matrices);
-        SpectrumDesk desk = new SpectrumDesk();
+        int[][] earlier = {{0}};
         for (int round = 0; round < many; round++) {
             for (int kind = 0; kind < Matrices.KINDS; kind++) {
                 int n = kind < 4 ? 1 + matrices.below(6) : 2 + matrices.below(5);
                 int[][] a = matrices.next(kind, n);
                 if (fits(a)) {
-                    // New objects and used ones: what is left of an earlier matrix must not show.
-                    desk = round % 4 == 0 ? new SpectrumDesk() : desk;
-                    Due.fill(desk, a);
-                    compare(desk, a, matrices);
+                    compare(round % 4 == 0 ? Due.desk(a) : usedDesk(earlier, a), a, matrices);
+                    earlier = a;
                 }
             }
         }
         due.end();
+    }
+
+    /** What is left of an earlier matrix must not show. */
+    private static SpectrumDesk usedDesk(int[][] earlier, int[][] a) {
+        SpectrumDesk desk = Due.desk(earlier);
+        desk.multiplicity(0);
+        desk.apart();
+        Due.fill(desk, a);
+        return desk;
     }
 
     private static void compareNearPairs(Matrices matrices) {

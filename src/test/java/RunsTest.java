@@ -3,8 +3,6 @@ import java.util.Random;
 
 /** Runs of 512 calls of all kinds, right and wrong, each answer compared with the model's. Arguments: seed, runs. */
 public final class RunsTest {
-    private static final String[] NAMES = {"make", "put", "at", "size", "data", "spread", "shift", "characteristic",
-        "character", "count", "cell", "multiplicity", "distinct", "whole", "apart", "check"};
     private static final int[] OFTEN = {1, 16, 3, 1, 12, 2, 3, 3, 4, 8, 6, 6, 2, 4, 2, 2};
     private static final long[] EXTREMES = {Integer.MIN_VALUE, Integer.MAX_VALUE, -1, 0, 1, 6, 7, 30, 31, 1000, 1001,
         -1000, -1001, 1000000, 1000001, -1000000, -1000001};
@@ -24,9 +22,9 @@ public final class RunsTest {
     private static void play(SpectrumDesk desk, Model model, Random random, int most, String run) {
         for (int call = 0; call < 512; call++) {
             int op = call == 0 ? 0 : pick(random);
-            long[] a = arguments(op, desk.size(0), random, most);
-            String name = run + ", call " + call + ": " + NAMES[op] + Arrays.toString(a);
-            due.same(name, answer(desk, op, a), model.answer(op, a));
+            long[] a = arguments(op, model.rows(), random, most);
+            String name = run + ", call " + call + ": " + Calls.told(op, a);
+            due.same(name, Calls.answer(desk, op, a), model.answer(op, a));
         }
     }
 
@@ -40,7 +38,7 @@ public final class RunsTest {
     }
 
     private static long[] arguments(int op, int n, Random random, int most) {
-        long[] a = new long[6];
+        long[] a = new long[Calls.MOST_ARGUMENTS];
         int dataMost = Math.min(most, random.nextInt(40) == 0 ? 1000 : 5);
         for (int i = 0; i < 6; i++) {
             a[i] = op == 4 ? random.nextInt(2 * dataMost + 1) - dataMost : random.nextInt(n);
@@ -57,7 +55,7 @@ public final class RunsTest {
             default: break;
         }
         if (random.nextInt(12) == 0) {
-            int at = random.nextInt(op == 4 ? 6 : op == 9 ? 4 : op == 1 ? 3 : 2);
+            int at = random.nextInt(Math.max(1, Calls.ARGUMENTS[op]));
             a[at] = EXTREMES[random.nextInt(EXTREMES.length)];
         }
         return a;
@@ -83,38 +81,6 @@ public final class RunsTest {
                 a[1] = random.nextInt(9) == 0 ? Long.MIN_VALUE : random.nextInt(200) - 100;
                 a[2] = random.nextInt(9) == 0 ? Long.MAX_VALUE : 1 + random.nextInt(60);
                 break;
-        }
-    }
-
-    /** An exception's very class is its name here: one that extends it, or any other, is told as what it is. */
-    private static String answer(SpectrumDesk desk, int op, long[] a) {
-        try {
-            return call(desk, op, a);
-        } catch (RuntimeException e) {
-            return "throws." + e.getClass().getSimpleName();
-        }
-    }
-
-    private static String call(SpectrumDesk desk, int op, long[] a) {
-        int i = (int) a[0];
-        int j = (int) a[1];
-        switch (op) {
-            case 0: desk.make(i); return "";
-            case 1: desk.put(i, j, (int) a[2]); return "";
-            case 2: return "" + desk.at(i, j);
-            case 3: return "" + desk.size(i);
-            case 4: return "" + desk.data(i, j, (int) a[2], (int) a[3], (int) a[4], (int) a[5]);
-            case 5: return "" + desk.spread();
-            case 6: return "" + desk.shift(i);
-            case 7: return "" + desk.characteristic(i);
-            case 8: return "" + desk.character(i);
-            case 9: return "" + desk.count(i, a[1], a[2], (int) a[3]);
-            case 10: return "" + desk.cell(i, j);
-            case 11: return "" + desk.multiplicity(i);
-            case 12: return "" + desk.distinct();
-            case 13: return "" + desk.whole(i);
-            case 14: return "" + desk.apart();
-            default: return "" + desk.check();
         }
     }
 }
