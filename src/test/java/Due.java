@@ -110,6 +110,16 @@ final class Due {
         return Arrays.toString(all);
     }
 
+    /** The matrix as one reads it, the rows parted by strokes. */
+    static String rowsOf(SpectrumDesk desk) {
+        int n = desk.size(0);
+        StringBuilder text = new StringBuilder();
+        for (int i = 0; i < n * n; i++) {
+            text.append(i == 0 ? "" : i % n == 0 ? " / " : " ").append(desk.at(i / n, i % n));
+        }
+        return text.toString();
+    }
+
     static String multiplicitiesOf(SpectrumDesk desk) {
         int[] all = new int[desk.size(0)];
         for (int i = 0; i < all.length; i++) {

@@ -4,6 +4,7 @@ import java.lang.reflect.Executable;
 import java.lang.reflect.Field;
 import java.lang.reflect.Method;
 import java.lang.reflect.Modifier;
+import java.nio.file.Files;
 import java.util.ArrayDeque;
 import java.util.Arrays;
 import java.util.Collections;
@@ -39,6 +40,7 @@ public final class FaceTest {
 
     public static void main(String[] args) {
         face();
+        faceOfDocument();
         otherNames();
         room();
         calls();
@@ -65,6 +67,20 @@ public final class FaceTest {
             }
         }
         due.same("the face", got.toString(), new TreeSet<>(Arrays.asList(FACE)).toString());
+    }
+
+    /** The list above against the document, whose lines have the names of arguments and the constants' values, too. */
+    private static void faceOfDocument() {
+        if (!Files.exists(Document.PLACE)) {
+            return;
+        }
+        Set<String> written = new TreeSet<>();
+        for (String line : new Markdown(Document.PLACE).code.get("The public face")) {
+            if (line.endsWith(";")) {
+                written.add(line.replaceAll("(int|long) \\w+(?=[,)])", "$1").replaceAll(" = .*|;", ""));
+            }
+        }
+        due.same("the document's face", written.toString(), new TreeSet<>(Arrays.asList(FACE)).toString());
     }
 
     private static String told(Executable e, String type) {

@@ -30,7 +30,7 @@ final class Model {
             case 12: return "" + oracle().different();
             case 13: return isIndex(i) ? "" + oracle().whole(i) : Calls.INDEX;
             case 14: return "" + oracle().apart();
-            default: return "1";
+            default: return "" + Oracle.check(matrix);
         }
     }
 

@@ -96,6 +96,33 @@ final class Oracle {
         return SpectrumDesk.NONE;
     }
 
+    /** Promise 17 for a matrix, word by word, with both edges of each cell. */
+    static int check(int[][] matrix) {
+        int n = matrix.length;
+        Oracle all = new Oracle(matrix, n);
+        BigInteger bottom = BigInteger.ONE.shiftLeft(30);
+        BigInteger sum = BigInteger.ZERO;
+        BigInteger least = BigInteger.ZERO;
+        boolean fits = true;
+        for (int i = 0; i < n; i++) {
+            BigInteger edge = all.cell(i, 30);
+            sum = sum.add(BigInteger.valueOf(matrix[i][i]).multiply(bottom));
+            least = least.add(edge);
+            for (int k = 1; k < n; k++) {
+                Oracle first = new Oracle(matrix, k);
+                fits &= interlaces(all, first, edge, bottom);
+                fits &= interlaces(all, first, edge.add(BigInteger.ONE), bottom);
+            }
+        }
+        BigInteger end = least.add(BigInteger.valueOf(n));
+        return fits && least.compareTo(sum) <= 0 && sum.compareTo(end) < 0 ? 1 : 0;
+    }
+
+    private static boolean interlaces(Oracle all, Oracle first, BigInteger top, BigInteger bottom) {
+        int fewer = all.below(top, bottom, false) - first.below(top, bottom, false);
+        return fewer >= 0 && fewer <= all.n - first.n;
+    }
+
     private static BigInteger[] fromTraces(int[][] matrix, int n) {
         BigInteger[] c = new BigInteger[n + 1];
         c[n] = BigInteger.ONE;

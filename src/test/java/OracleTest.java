@@ -76,7 +76,7 @@ public final class OracleTest {
             due.same(name + " whole " + i, desk.whole(i) ? 1 : 0, oracle.whole(i) ? 1 : 0);
         }
         due.same(name + " apart", desk.apart(), oracle.apart());
-        due.same(name + " check", desk.check(), 1);
+        due.same(name + " check", desk.check(), Oracle.check(a));
         for (int k = 1; k <= n; k++) {
             Oracle first = new Oracle(a, k);
             compareCounts(desk, first, k, name, first.cell(matrices.below(k), 0).longValueExact(), 1);

@@ -1,11 +1,14 @@
-/** The promises of the document, one after the other: ordinary inputs, the edges it names, wrong inputs. */
+/**
+ * The promises of the document, one after the other, sentence by sentence: ordinary inputs, the edges it names,
+ * wrong inputs. The answers come from its words and from whole-number arithmetic by hand.
+ */
 public final class PromisesTest {
-    private static final int NONE = SpectrumDesk.NONE;
-    private static final int LARGE = SpectrumDesk.LARGE;
+    private static final int NONE = -1;
+    private static final int LARGE = -2;
     private static final Due due = new Due();
+    private static final Document document = new Document(due);
 
     public static void main(String[] args) {
-        constants();
         newObject();
         make();
         put();
@@ -25,15 +28,13 @@ public final class PromisesTest {
         whole();
         apart();
         check();
+        document.end("Promise ");
         due.end();
     }
 
-    private static void constants() {
-        due.same("NONE", SpectrumDesk.NONE, -1);
-        due.same("LARGE", SpectrumDesk.LARGE, -2);
-    }
-
     private static void newObject() {
+        document.under("Promise 1: A new object");
+        document.says("One row and column with 0; no data, nothing printed.");
         SpectrumDesk desk = new SpectrumDesk();
         due.same("new size(0)", desk.size(0), 1);
         due.same("new size(1)", desk.size(1), 0);
@@ -48,6 +49,8 @@ public final class PromisesTest {
     }
 
     private static void make() {
+        document.under("Promise 2: make");
+        document.says("The matrix has n rows and columns, all 0; there are no data; what was printed stays.");
         SpectrumDesk desk = Due.desk(Due.row(1, 2), Due.row(2, 3));
         desk.data(1, 2, 0, 0, 0, 0);
         desk.characteristic(0);
@@ -59,6 +62,7 @@ public final class PromisesTest {
         due.same("data after make", desk.data(5, 6, 7, 0, 0, 0), 1);
         due.same("spread after make", desk.spread(), 0);
         due.same("one row has no spread", Due.matrixOf(desk), "[0, 0, 0, 0, 0, 0, 0, 0, 0]");
+        document.says("IllegalArgumentException when n is not 1 .. 6.");
         for (int n : new int[] {0, -1, 7, Integer.MIN_VALUE, Integer.MAX_VALUE}) {
             due.illegal("make(" + n + ")", () -> desk.make(n));
         }
@@ -76,6 +80,8 @@ public final class PromisesTest {
     }
 
     private static void put() {
+        document.under("Promise 3: put");
+        document.says("A number of the matrix, and the one across the diagonal, become v.");
         SpectrumDesk desk = new SpectrumDesk();
         desk.make(3);
         desk.put(0, 2, 5);
@@ -88,6 +94,8 @@ public final class PromisesTest {
         due.same("the largest", desk.at(1, 1), 1000000);
         due.same("the least", desk.at(1, 2), -1000000);
         String before = Due.matrixOf(desk);
+        document.says("IndexOutOfBoundsException when there is no such row or column; IllegalArgumentException when v "
+            + "is too large.");
         due.outOfBounds("put(3, 0, 1)", () -> desk.put(3, 0, 1));
         due.outOfBounds("put(0, 3, 1)", () -> desk.put(0, 3, 1));
         due.outOfBounds("put(-1, 0, 1)", () -> desk.put(-1, 0, 1));
@@ -106,8 +114,11 @@ public final class PromisesTest {
     }
 
     private static void at() {
+        document.under("Promise 4: at");
+        document.says("A number of the matrix.");
         SpectrumDesk desk = Due.desk(Due.row(1, 2, 3), Due.row(2, 4, 5), Due.row(3, 5, 6));
         due.same("all numbers", Due.matrixOf(desk), "[1, 2, 3, 2, 4, 5, 3, 5, 6]");
+        document.says("IndexOutOfBoundsException when there is none such.");
         due.outOfBounds("at(3, 0)", () -> desk.at(3, 0));
         due.outOfBounds("at(0, 3)", () -> desk.at(0, 3));
         due.outOfBounds("at(-1, 0)", () -> desk.at(-1, 0));
@@ -117,6 +128,8 @@ public final class PromisesTest {
     }
 
     private static void size() {
+        document.under("Promise 5: size");
+        document.says("How many rows the matrix has (what 0), the data have (1); NONE for others.");
         SpectrumDesk desk = new SpectrumDesk();
         desk.make(4);
         desk.data(1, 1, 1, 1, 1, 1);
@@ -131,9 +144,12 @@ public final class PromisesTest {
     }
 
     private static void data() {
+        document.under("Promise 6: data");
+        document.says("One more row of data, of its first n numbers: how many there are.");
         SpectrumDesk desk = new SpectrumDesk();
         desk.make(2);
         due.same("data", desk.data(1000, -1000, 1001, Integer.MIN_VALUE, 9999, Integer.MAX_VALUE), 1);
+        document.says("NONE, and nothing is done, when one of these is too large, or there are 100.");
         due.same("data, first too large", desk.data(1001, 0, 0, 0, 0, 0), NONE);
         due.same("data, second too small", desk.data(0, -1001, 0, 0, 0, 0), NONE);
         due.same("data, least int", desk.data(Integer.MIN_VALUE, 0, 0, 0, 0, 0), NONE);
@@ -162,6 +178,9 @@ public final class PromisesTest {
     }
 
     private static void spread() {
+        document.under("Promise 7: spread");
+        document.says("The matrix becomes the data's spread (without data all its numbers are 0): 0; LARGE, and "
+            + "nothing is done, when a number of it would be too large.");
         SpectrumDesk desk = Due.desk(Due.row(1, 2), Due.row(2, 3));
         due.same("spread without data", desk.spread(), 0);
         due.same("without data all are 0", Due.matrixOf(desk), "[0, 0, 0, 0]");
@@ -198,6 +217,9 @@ public final class PromisesTest {
     }
 
     private static void shift() {
+        document.under("Promise 8: shift");
+        document.says("All numbers on the diagonal are more by v: 0; LARGE, and nothing is done, when one would be "
+            + "too large.");
         SpectrumDesk desk = Due.desk(Due.row(1, 2), Due.row(2, 3));
         desk.cell(0, 0);
         due.same("shift", desk.shift(-4), 0);
@@ -223,12 +245,15 @@ public final class PromisesTest {
     }
 
     private static void characteristic() {
+        document.under("Promise 9: characteristic");
+        document.says("Prints characteristic number k: '-' below 0, then its size in decimal: how many characters.");
         SpectrumDesk desk = Due.desk(Due.row(2, -1, 0), Due.row(-1, 2, -1), Due.row(0, -1, 2));
         print(desk, 0, "-4");
         print(desk, 1, "10");
         print(desk, 2, "-6");
         print(desk, 3, "1");
         print(desk, 0, "-4");
+        document.says("NONE, and what was printed stays, when there is no such k.");
         for (int k : new int[] {4, -1, Integer.MAX_VALUE, Integer.MIN_VALUE}) {
             due.same("characteristic(" + k + ")", desk.characteristic(k), NONE);
             due.same("what was printed stays", Due.printed(desk), "-4");
@@ -254,6 +279,8 @@ public final class PromisesTest {
     }
 
     private static void character() {
+        document.under("Promise 10: character");
+        document.says("Character i of what was printed latest; NONE when there is none.");
         SpectrumDesk desk = Due.diagonal(27, 38);
         due.same("before all printing", desk.character(0), NONE);
         desk.characteristic(1);
@@ -277,6 +304,9 @@ public final class PromisesTest {
     }
 
     private static void count() {
+        document.under("Promise 11: count");
+        document.says("Of the matrix of the first k rows and columns: how many eigenvalues are less than top / bottom "
+            + "(way 0), equal to it (1), greater (2).");
         SpectrumDesk desk = Due.desk(Due.row(2, -1, 0), Due.row(-1, 2, -1), Due.row(0, -1, 2));
         counts(desk, 3, 2, 1, Due.row(1, 1, 1));
         counts(desk, 3, 6, 3, Due.row(1, 1, 1));
@@ -291,6 +321,7 @@ public final class PromisesTest {
         counts(signature, 6, 0, 1, Due.row(2, 3, 1));
         counts(signature, 6, 0, Long.MAX_VALUE, Due.row(2, 3, 1));
         counts(signature, 4, 0, 1, Due.row(1, 2, 1));
+        document.says("IllegalArgumentException when k is not 1 .. n, there is no such way, or bottom is not above 0.");
         for (int k : new int[] {0, 4, -1, Integer.MAX_VALUE, Integer.MIN_VALUE}) {
             due.illegal("count(" + k + ", ..)", () -> desk.count(k, 1, 1, 0));
         }
@@ -330,6 +361,8 @@ public final class PromisesTest {
     }
 
     private static void cell() {
+        document.under("Promise 12: cell");
+        document.says("The cell of eigenvalue i in the grid of w.");
         SpectrumDesk desk = Due.desk(Due.row(2, -1, 0), Due.row(-1, 2, -1), Due.row(0, -1, 2));
         long[][] want = {{0, 1, 2, 599, 628983398}, {2, 4, 8, 2048, 2147483648L}, {3, 6, 13, 3496, 3665983897L}};
         int[] grids = {0, 1, 2, 10, 30};
@@ -351,6 +384,8 @@ public final class PromisesTest {
         }
         due.same("the largest", wide.cell(5, 30), 6000000L << 30);
         due.same("the others", wide.cell(4, 30), 0);
+        document.says("IndexOutOfBoundsException when there is no such eigenvalue; IllegalArgumentException when "
+            + "there is no such grid.");
         for (int i : new int[] {3, -1, 6, Integer.MAX_VALUE, Integer.MIN_VALUE}) {
             due.outOfBounds("cell(" + i + ", 0)", () -> desk.cell(i, 0));
             due.outOfBounds("cell(" + i + ", 31): the eigenvalue first", () -> desk.cell(i, 31));
@@ -361,6 +396,8 @@ public final class PromisesTest {
     }
 
     private static void multiplicity() {
+        document.under("Promise 13: multiplicity");
+        document.says("The multiplicity of eigenvalue i.");
         SpectrumDesk desk = Due.diagonal(5, -3, 5, 7, -3, 5);
         due.same("multiplicities", Due.multiplicitiesOf(desk), "[2, 2, 3, 3, 3, 1]");
         due.same("all 0", Due.multiplicitiesOf(Due.diagonal(0, 0, 0, 0, 0, 0)), "[6, 6, 6, 6, 6, 6]");
@@ -371,6 +408,7 @@ public final class PromisesTest {
             Due.row(0, 0, 0, 1, 1, 0), Due.row(0, 0, 0, 1, 2, 1), Due.row(0, 0, 0, 0, 1, 5));
         due.same("a cubic twice", Due.multiplicitiesOf(cubic), "[2, 2, 2, 2, 2, 2]");
         due.same("near each other", Due.multiplicitiesOf(path(1)), "[1, 1, 1, 1, 1, 1]");
+        document.says("IndexOutOfBoundsException when there is none such.");
         for (int i : new int[] {6, -1, Integer.MAX_VALUE, Integer.MIN_VALUE}) {
             due.outOfBounds("multiplicity(" + i + ")", () -> desk.multiplicity(i));
         }
@@ -406,6 +444,8 @@ public final class PromisesTest {
     }
 
     private static void distinct() {
+        document.under("Promise 14: distinct");
+        document.says("How many different eigenvalues there are.");
         due.same("distinct", Due.diagonal(5, -3, 5, 7, -3, 5).distinct(), 3);
         due.same("one", Due.diagonal(5, 5, 5, 5, 5, 5).distinct(), 1);
         due.same("six", Due.diagonal(1, 2, 3, 4, 5, 6).distinct(), 6);
@@ -422,6 +462,8 @@ public final class PromisesTest {
     }
 
     private static void whole() {
+        document.under("Promise 15: whole");
+        document.says("Whether eigenvalue i is a whole number.");
         SpectrumDesk desk = Due.desk(Due.row(2, -1, 0), Due.row(-1, 2, -1), Due.row(0, -1, 2));
         due.no("2 - root of 2", desk.whole(0));
         due.yes("2", desk.whole(1));
@@ -429,12 +471,16 @@ public final class PromisesTest {
         due.yes("below 0", Due.diagonal(-3, 4).whole(0));
         due.yes("above 0", Due.diagonal(-3, 4).whole(1));
         due.no("the next whole number is another's", path(1).whole(5));
+        document.says("IndexOutOfBoundsException when there is none such.");
         for (int i : new int[] {3, -1, Integer.MAX_VALUE, Integer.MIN_VALUE}) {
             due.outOfBounds("whole(" + i + ")", () -> desk.whole(i));
         }
     }
 
     private static void apart() {
+        document.under("Promise 16: apart");
+        document.says("The least grid w in which all eigenvalues that are not the same lie in different cells; NONE "
+            + "when there is none up to 30.");
         due.same("one alone", new SpectrumDesk().apart(), 0);
         due.same("the same need no grid", Due.diagonal(3, 3, 3).apart(), 0);
         due.same("whole ones", Due.diagonal(3, 4, 5).apart(), 0);
@@ -454,6 +500,11 @@ public final class PromisesTest {
     }
 
     private static void check() {
+        document.under("Promise 17: check");
+        document.says("Whether the numbers on the diagonal, together, lie where the cells of all eigenvalues in the "
+            + "grid of 30, together, say that their sum does; and, for each cell's edge and each k below n, "
+            + "the first k rows and columns have no more eigenvalues below it than the whole matrix, and not "
+            + "more than n - k fewer: 1; it would tell 0.");
         due.same("a new one", new SpectrumDesk().check(), 1);
         due.same("near", path(1).check(), 1);
         due.same("same", Due.diagonal(5, 5, 5, 2, 2, -7).check(), 1);

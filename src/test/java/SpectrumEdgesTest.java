@@ -1,9 +1,8 @@
 import java.util.Arrays;
 
 /**
- * The sentences of the document that name a boundary case, of promises 11 to 17 and of "What it is": the last
- * input that is taken, the first one that is not, the ends of int and long, and that what is refused has changed
- * nothing.
+ * The sentences of the document that name a boundary case, of promises 11 to 17: the last input that is taken, the
+ * first one that is not, the ends of int and long, and that what is refused has changed nothing.
  */
 public final class SpectrumEdgesTest {
     private static final Due due = new Due();
@@ -34,7 +33,6 @@ public final class SpectrumEdgesTest {
         apartInTheLastGrid();
         apartInGridZero();
         checkOfAllEdges();
-        theLastCall();
         due.end();
     }
 
@@ -354,21 +352,5 @@ public final class SpectrumEdgesTest {
         }
         edges.taken(zeroAndNear(1000000, -999999), "1", "check");
         edges.taken(zeroAndNear(1000000, -1000000), "1", "check");
-    }
-
-    /** "An object is used for at most 512 calls": the 512th is still one of them, whichever it is. */
-    private static void theLastCall() {
-        for (int op = 0; op < Calls.NAMES.size(); op++) {
-            SpectrumDesk desk = Edges.ordinary(4);
-            int used = 1 + 10 + 3 + 1;
-            for (int call = used; call < 511; call++) {
-                Calls.answer(desk, call % 2 == 0 ? 1 : 14, new long[] {0, 3, call, 0, 0, 0});
-            }
-            SpectrumDesk young = Edges.ordinary(4);
-            young.put(0, 3, 510);
-            String told = "call 512: " + Calls.NAMES.get(op);
-            long[] a = {1, 1, 1, 1, 1, 1};
-            due.same(told, Calls.answer(desk, op, a), Calls.answer(young, op, a));
-        }
     }
 }
