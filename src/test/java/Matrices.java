@@ -2,7 +2,7 @@ import java.util.Random;
 
 /** Symmetric matrices of many kinds, the same ones for the same seed. */
 final class Matrices {
-    static final int KINDS = 9;
+    static final int KINDS = 10;
     private final Random random;
 
     Matrices(long seed) {
@@ -27,7 +27,8 @@ final class Matrices {
             case 5: return path(n);
             case 6: return smallDeterminant(n);
             case 7: return reflected(n);
-            default: return repeatedAndNear(n);
+            case 8: return repeatedAndNear(n);
+            default: return doubled(n);
         }
     }
 
@@ -46,6 +47,19 @@ final class Matrices {
         for (int i = 0; i < n; i++) {
             for (int j = 0; j < n; j++) {
                 a[i][j] *= 1000000;
+            }
+        }
+        return a;
+    }
+
+    /** Numbers that can be halved many times, and whatever comes of them all the more often. */
+    private int[][] doubled(int n) {
+        int times = 14 + below(5);
+        int most = 1000000 >> times;
+        int[][] a = below(2) == 0 ? any(n, most) : copies(n, most);
+        for (int[] row : a) {
+            for (int j = 0; j < n; j++) {
+                row[j] <<= times;
             }
         }
         return a;
